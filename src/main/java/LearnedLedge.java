@@ -48,12 +48,8 @@ public final class LearnedLedge {
     // ---- keys that come and go
 
     public int append(int key) throws IllegalArgumentException, IllegalStateException {
-        if (!isKey(key)) {
-            throw new IllegalArgumentException("key out of range");
-        }
-        if (!canFollow(key, 1)) {
-            throw new IllegalStateException("no room, or a key is not less");
-        }
+        needKey(key);
+        needToFollow(key, 1);
         addLast(key);
         return starts.length();
     }
@@ -64,12 +60,9 @@ public final class LearnedLedge {
             throw new IllegalArgumentException("step or many out of range");
         }
         long last = first + (long) step * (many - 1);
-        if (!isKey(first) || !isKey(last)) {
-            throw new IllegalArgumentException("key out of range");
-        }
-        if (!canFollow(first, many)) {
-            throw new IllegalStateException("no room, or a key is not less");
-        }
+        needKey(first);
+        needKey(last);
+        needToFollow(first, many);
         for (int added = 0; added < many; added++) {
             addLast(first + step * added);
         }
@@ -77,9 +70,7 @@ public final class LearnedLedge {
     }
 
     public int insert(int key) throws IllegalArgumentException, IllegalStateException {
-        if (!isKey(key)) {
-            throw new IllegalArgumentException("key out of range");
-        }
+        needKey(key);
         int found = keys.indexOf(key);
         if (isThere(key) || found == NONE && allKeys() >= MOST_KEYS) {
             throw new IllegalStateException("key is there, or no room");
@@ -170,16 +161,12 @@ public final class LearnedLedge {
     }
 
     public long guess(int key) throws IllegalArgumentException {
-        if (!isKey(key)) {
-            throw new IllegalArgumentException("key out of range");
-        }
+        needKey(key);
         return guessBy(pieceOf(key), key);
     }
 
     public int looks(int key) throws IllegalArgumentException {
-        if (!isKey(key)) {
-            throw new IllegalArgumentException("key out of range");
-        }
+        needKey(key);
         int piece = pieceOf(key);
         return piece == NONE ? 0 : looksBy(piece, key);
     }
@@ -203,30 +190,22 @@ public final class LearnedLedge {
     }
 
     public int start(int piece) throws IndexOutOfBoundsException {
-        if (!starts.has(piece)) {
-            throw new IndexOutOfBoundsException("no such piece");
-        }
+        needPiece(piece);
         return starts.at(piece);
     }
 
     public int firstKey(int piece) throws IndexOutOfBoundsException {
-        if (!starts.has(piece)) {
-            throw new IndexOutOfBoundsException("no such piece");
-        }
+        needPiece(piece);
         return firstOf(piece);
     }
 
     public int rise(int piece) throws IndexOutOfBoundsException {
-        if (!starts.has(piece)) {
-            throw new IndexOutOfBoundsException("no such piece");
-        }
+        needPiece(piece);
         return rises.at(piece);
     }
 
     public int run(int piece) throws IndexOutOfBoundsException {
-        if (!starts.has(piece)) {
-            throw new IndexOutOfBoundsException("no such piece");
-        }
+        needPiece(piece);
         return runs.at(piece);
     }
 
@@ -280,11 +259,29 @@ public final class LearnedLedge {
         return joinCount;
     }
 
-    // ---- what is there
+    // ---- what the calls need
 
-    private static boolean isKey(long key) {
-        return key >= -FARTHEST_KEY && key <= FARTHEST_KEY;
+    private static void needKey(long key) {
+        if (key < -FARTHEST_KEY || key > FARTHEST_KEY) {
+            throw new IllegalArgumentException("key out of range");
+        }
     }
+
+    private void needPiece(int piece) {
+        if (!starts.has(piece)) {
+            throw new IndexOutOfBoundsException("no such piece");
+        }
+    }
+
+    /** Keys from the first one on come behind all keys that are kept, marked or not, and have room. */
+    private void needToFollow(int first, int many) {
+        boolean behindAll = keys.below(first) == keys.length() && buffer.below(first) == buffer.length();
+        if (allKeys() + many > MOST_KEYS || !behindAll) {
+            throw new IllegalStateException("no room, or a key is not less");
+        }
+    }
+
+    // ---- what is there
 
     private int allKeys() {
         return keys.length() + buffer.length();
@@ -315,12 +312,6 @@ public final class LearnedLedge {
     }
 
     // ---- adding keys
-
-    private boolean canFollow(int first, int many) {
-        return allKeys() + many <= MOST_KEYS
-                && keys.below(first) == keys.length()
-                && buffer.below(first) == buffer.length();
-    }
 
     private void addLast(int key) {
         int place = keys.length();
@@ -385,7 +376,8 @@ public final class LearnedLedge {
 
     private long guessBy(int piece, int key) {
         long run = runs.at(piece);
-        if (!starts.has(piece) || run < 1) {
+        // A piece that is not there has no run either.
+        if (run < 1) {
             return NONE;
         }
         long width = (long) key - firstOf(piece);
@@ -668,7 +660,7 @@ public final class LearnedLedge {
                 common = rest;
                 rest = next;
             }
-            return Math.max(1, common);
+            return common < 1 ? 1 : common;
         }
     }
 }

@@ -13,6 +13,7 @@ public final class PromisesTest {
     public static void main(String[] args) {
         newObject();
         append();
+        appendAtTheBound();
         appendExceptions();
         appendMany();
         appendManyExceptions();
@@ -94,6 +95,15 @@ public final class PromisesTest {
         ledge.merge();
         Check.due("2 after all keys were dropped", 1, ledge.append(3));
         Check.due("2 the first one again", 3, ledge.firstKey(0));
+    }
+
+    private static void appendAtTheBound() {
+        // At bound 1, 10 at the place 1 allows 2/10, and 15 at the place 4 asks for 3/15.
+        Check.due("2 asks for just what is allowed", 1, with(1, 4, 0, 10, 11, 12).append(15));
+        Check.due("2 asks for more", 2, with(1, 4, 0, 10, 11, 12).append(14));
+        // 6 at the place 3 asks for 2/6, and 15 at the place 4 allows 5/15.
+        Check.due("2 allows just what is asked for", 1, with(1, 4, 0, 2, 4, 6).append(15));
+        Check.due("2 allows less", 2, with(1, 4, 0, 2, 4, 6).append(16));
     }
 
     private static void appendExceptions() {
