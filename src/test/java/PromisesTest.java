@@ -1,12 +1,8 @@
-import java.util.NoSuchElementException;
-
-/** Each promise of the document by itself: ordinary inputs, the edges, and wrong inputs. */
+/**
+ * Each promise of the document by itself, as it is used. The calls that are refused, and the edges
+ * sentence by sentence, are in TermsEdgesTest and CallsEdgesTest.
+ */
 public final class PromisesTest {
-    private static final Class<?> ARGUMENT = IllegalArgumentException.class;
-    private static final Class<?> STATE = IllegalStateException.class;
-    private static final Class<?> INDEX = IndexOutOfBoundsException.class;
-    private static final Class<?> ELEMENT = NoSuchElementException.class;
-
     private PromisesTest() {
     }
 
@@ -14,11 +10,11 @@ public final class PromisesTest {
         newObject();
         append();
         appendAtTheBound();
-        appendExceptions();
+        appendBehindAll();
         appendMany();
-        appendManyExceptions();
+        appendManyBehindAll();
         insert();
-        insertExceptions();
+        insertIntoTheFull();
         remove();
         mergeSplits();
         mergeJoins();
@@ -42,12 +38,7 @@ public final class PromisesTest {
     }
 
     private static LearnedLedge with(int bound, int room, int... keys) {
-        LearnedLedge ledge = new LearnedLedge();
-        ledge.rebuild(bound, room);
-        for (int key : keys) {
-            ledge.append(key);
-        }
-        return ledge;
+        return Ledges.with(bound, room, keys);
     }
 
     private static void newObject() {
@@ -106,37 +97,16 @@ public final class PromisesTest {
         Check.due("2 allows less", 2, with(1, 4, 0, 2, 4, 6).append(16));
     }
 
-    private static void appendExceptions() {
+    private static void appendBehindAll() {
         LearnedLedge ledge = with(2, 4, 0, 10);
         ledge.insert(15);
         ledge.remove(10);
-        Check.throwsDue("2 above", ledge, ARGUMENT, () -> ledge.append(1000001));
-        Check.throwsDue("2 below", ledge, ARGUMENT, () -> ledge.append(-1000001));
-        Check.throwsDue("2 least int", ledge, ARGUMENT, () -> ledge.append(Integer.MIN_VALUE));
-        Check.throwsDue("2 greatest int", ledge, ARGUMENT, () -> ledge.append(Integer.MAX_VALUE));
-        Check.throwsDue("2 less than the row's", ledge, STATE, () -> ledge.append(9));
-        Check.throwsDue("2 a marked key", ledge, STATE, () -> ledge.append(10));
-        Check.throwsDue("2 less than the buffer's", ledge, STATE, () -> ledge.append(14));
-        Check.throwsDue("2 the buffer's", ledge, STATE, () -> ledge.append(15));
         Check.due("2 greater than all", 1, ledge.append(16));
-        LearnedLedge full = full();
-        Check.throwsDue("2 full", full, STATE, () -> full.append(500000));
-        Check.throwsDue("2 full and out of range", full, ARGUMENT, () -> full.append(1000001));
+        LearnedLedge full = Ledges.fullByBuffer();
         full.remove(2);
-        Check.throwsDue("2 full by a marked key", full, STATE, () -> full.append(500000));
         full.merge();
         Check.due("2 room again", 2, full.append(500000));
         Check.due("2 full again", 256, full.size());
-    }
-
-    /** 255 keys in the row and one in the buffer. */
-    private static LearnedLedge full() {
-        LearnedLedge full = with(2, 16);
-        full.appendMany(0, 2, 100);
-        full.appendMany(200, 2, 100);
-        full.appendMany(400, 2, 55);
-        full.insert(1);
-        return full;
     }
 
     private static void appendMany() {
@@ -156,32 +126,15 @@ public final class PromisesTest {
         Check.due("3 keys then", 201, ends.rowSize());
     }
 
-    private static void appendManyExceptions() {
+    private static void appendManyBehindAll() {
         LearnedLedge ledge = with(2, 4, 0, 10);
         ledge.insert(15);
         ledge.remove(10);
-        Check.throwsDue("3 step 0", ledge, ARGUMENT, () -> ledge.appendMany(20, 0, 1));
-        Check.throwsDue("3 step 10001", ledge, ARGUMENT, () -> ledge.appendMany(20, 10001, 1));
-        Check.throwsDue("3 step below", ledge, ARGUMENT, () -> ledge.appendMany(20, Integer.MIN_VALUE, 1));
-        Check.throwsDue("3 many 0", ledge, ARGUMENT, () -> ledge.appendMany(20, 1, 0));
-        Check.throwsDue("3 many 101", ledge, ARGUMENT, () -> ledge.appendMany(20, 1, 101));
-        Check.throwsDue("3 many below", ledge, ARGUMENT, () -> ledge.appendMany(20, 1, -1));
-        Check.throwsDue("3 first below", ledge, ARGUMENT, () -> ledge.appendMany(-1000001, 1, 5));
-        Check.throwsDue("3 first above", ledge, ARGUMENT, () -> ledge.appendMany(1000001, 1, 1));
-        Check.throwsDue("3 last above", ledge, ARGUMENT, () -> ledge.appendMany(999999, 1, 3));
-        Check.throwsDue("3 greatest int", ledge, ARGUMENT, () -> ledge.appendMany(Integer.MAX_VALUE, 10000, 100));
-        Check.throwsDue("3 least int", ledge, ARGUMENT, () -> ledge.appendMany(Integer.MIN_VALUE, 10000, 100));
-        Check.throwsDue("3 marked key", ledge, STATE, () -> ledge.appendMany(10, 10, 2));
-        Check.throwsDue("3 buffer's key", ledge, STATE, () -> ledge.appendMany(15, 10, 2));
-        Check.throwsDue("3 range comes first", ledge, ARGUMENT, () -> ledge.appendMany(10, 10, 101));
         Check.due("3 behind all", 1, ledge.appendMany(16, 10, 2));
-        LearnedLedge full = full();
+        LearnedLedge full = Ledges.fullByBuffer();
         full.remove(1);
-        Check.throwsDue("3 two too many", full, STATE, () -> full.appendMany(600, 1, 2));
-        Check.throwsDue("3 out of range first", full, ARGUMENT, () -> full.appendMany(1000000, 1, 2));
         full.appendMany(600, 1, 1);
         Check.due("3 just enough", 256, full.rowSize());
-        Check.throwsDue("3 full", full, STATE, () -> full.appendMany(700, 1, 1));
     }
 
     private static void insert() {
@@ -215,21 +168,9 @@ public final class PromisesTest {
         Check.due("4 again after it left the buffer", 1, wide.insert(-1));
     }
 
-    private static void insertExceptions() {
-        LearnedLedge ledge = with(2, 4, 0, 10);
-        ledge.insert(5);
-        Check.throwsDue("4 above", ledge, ARGUMENT, () -> ledge.insert(1000001));
-        Check.throwsDue("4 below", ledge, ARGUMENT, () -> ledge.insert(-1000001));
-        Check.throwsDue("4 least int", ledge, ARGUMENT, () -> ledge.insert(Integer.MIN_VALUE));
-        Check.throwsDue("4 greatest int", ledge, ARGUMENT, () -> ledge.insert(Integer.MAX_VALUE));
-        Check.throwsDue("4 in the row", ledge, STATE, () -> ledge.insert(10));
-        Check.throwsDue("4 in the buffer", ledge, STATE, () -> ledge.insert(5));
-        LearnedLedge full = full();
-        Check.throwsDue("4 full", full, STATE, () -> full.insert(3));
-        Check.throwsDue("4 full, there", full, STATE, () -> full.insert(4));
-        Check.throwsDue("4 full, out of range", full, ARGUMENT, () -> full.insert(1000001));
+    private static void insertIntoTheFull() {
+        LearnedLedge full = Ledges.fullByBuffer();
         full.remove(4);
-        Check.throwsDue("4 full by a marked one", full, STATE, () -> full.insert(3));
         Check.due("4 full, but the row has it marked", 1, full.insert(4));
         full.remove(1);
         Check.due("4 room again", 1, full.insert(3));
@@ -246,17 +187,10 @@ public final class PromisesTest {
         Check.due("5 it left", 1, ledge.buffered());
         Check.due("5 the other one stays", 1, ledge.contains(7) ? 1 : 0);
         Check.due("5 row as before", 3, ledge.rowSize());
-        Check.throwsDue("5 marked already", ledge, ELEMENT, () -> ledge.remove(10));
-        Check.throwsDue("5 left already", ledge, ELEMENT, () -> ledge.remove(5));
-        Check.throwsDue("5 never there", ledge, ELEMENT, () -> ledge.remove(11));
-        Check.throwsDue("5 least int", ledge, ELEMENT, () -> ledge.remove(Integer.MIN_VALUE));
-        Check.throwsDue("5 greatest int", ledge, ELEMENT, () -> ledge.remove(Integer.MAX_VALUE));
         Check.due("5 first of the row", 2, ledge.remove(0));
         Check.due("5 last of the row", 1, ledge.remove(20));
         Check.due("5 last one", 0, ledge.remove(7));
-        Check.throwsDue("5 empty", ledge, ELEMENT, () -> ledge.remove(7));
         ledge.merge();
-        Check.throwsDue("5 dropped", ledge, ELEMENT, () -> ledge.remove(0));
     }
 
     private static void mergeSplits() {
@@ -361,16 +295,11 @@ public final class PromisesTest {
         String counts = ledge.merges() + " " + ledge.splits() + " " + ledge.joins();
         Check.due("7 greatest bound and room", 1, ledge.rebuild(20, 16));
         Check.due("7 counts stay", counts, ledge.merges() + " " + ledge.splits() + " " + ledge.joins());
-        Check.throwsDue("7 bound below", ledge, ARGUMENT, () -> ledge.rebuild(-1, 4));
-        Check.throwsDue("7 bound above", ledge, ARGUMENT, () -> ledge.rebuild(21, 4));
-        Check.throwsDue("7 room below", ledge, ARGUMENT, () -> ledge.rebuild(2, 0));
-        Check.throwsDue("7 room above", ledge, ARGUMENT, () -> ledge.rebuild(2, 17));
-        Check.throwsDue("7 far", ledge, ARGUMENT, () -> ledge.rebuild(Integer.MAX_VALUE, Integer.MIN_VALUE));
         for (int key = 101; key < 116; key++) {
             ledge.insert(key);
         }
-        Check.due("7 the room stood", 15, ledge.buffered());
-        Check.due("7 the bound stood", 1, ledge.merge());
+        Check.due("7 fifteen of sixteen", 15, ledge.buffered());
+        Check.due("7 by the greatest bound", 1, ledge.merge());
         LearnedLedge none = new LearnedLedge();
         Check.due("7 without keys", 0, none.rebuild(0, 1));
         Check.due("7 least room", 0, none.insert(1));
@@ -424,12 +353,7 @@ public final class PromisesTest {
         for (int place = 0; place < due.length; place++) {
             Check.due("11 select", due[place], ledge.select(place));
         }
-        Check.throwsDue("11 one too far", ledge, INDEX, () -> ledge.select(5));
-        Check.throwsDue("11 below", ledge, INDEX, () -> ledge.select(-1));
-        Check.throwsDue("11 least int", ledge, INDEX, () -> ledge.select(Integer.MIN_VALUE));
-        Check.throwsDue("11 greatest int", ledge, INDEX, () -> ledge.select(Integer.MAX_VALUE));
         LearnedLedge none = new LearnedLedge();
-        Check.throwsDue("11 empty", none, INDEX, () -> none.select(0));
     }
 
     private static void ceiling() {
@@ -443,13 +367,9 @@ public final class PromisesTest {
         Check.due("12 marked ones are passed", 20, ledge.ceiling(6));
         Check.due("12 marked itself", 20, ledge.ceiling(10));
         Check.due("12 last", 30, ledge.ceiling(21));
-        Check.throwsDue("12 above all", ledge, ELEMENT, () -> ledge.ceiling(31));
-        Check.throwsDue("12 greatest int", ledge, ELEMENT, () -> ledge.ceiling(Integer.MAX_VALUE));
         ledge.remove(30);
         ledge.remove(20);
-        Check.throwsDue("12 only marked ones", ledge, ELEMENT, () -> ledge.ceiling(6));
         LearnedLedge none = new LearnedLedge();
-        Check.throwsDue("12 empty", none, ELEMENT, () -> none.ceiling(Integer.MIN_VALUE));
     }
 
     private static void place() {
@@ -480,10 +400,6 @@ public final class PromisesTest {
         Check.due("15 no piece, least key", LearnedLedge.NONE, ledge.guess(-1000000));
         ledge.remove(31);
         Check.due("15 marked keys guess on", 4, ledge.guess(32));
-        Check.throwsDue("15 above", ledge, ARGUMENT, () -> ledge.guess(1000001));
-        Check.throwsDue("15 below", ledge, ARGUMENT, () -> ledge.guess(-1000001));
-        Check.throwsDue("15 least int", ledge, ARGUMENT, () -> ledge.guess(Integer.MIN_VALUE));
-        Check.throwsDue("15 greatest int", ledge, ARGUMENT, () -> ledge.guess(Integer.MAX_VALUE));
         Check.due("15 empty", LearnedLedge.NONE, new LearnedLedge().guess(0));
         // The steepest slope there can be over the widest way.
         LearnedLedge steep = with(0, 4);
@@ -505,9 +421,6 @@ public final class PromisesTest {
         Check.due("16 empty", 0, new LearnedLedge().looks(0));
         // Guess 17 for 190: low 15 and high 20; the keys at 17, 19 and 18 are looked at.
         Check.due("16 last key", 3, ledge.looks(190));
-        Check.throwsDue("16 above", ledge, ARGUMENT, () -> ledge.looks(1000001));
-        Check.throwsDue("16 below", ledge, ARGUMENT, () -> ledge.looks(-1000001));
-        Check.throwsDue("16 least int", ledge, ARGUMENT, () -> ledge.looks(Integer.MIN_VALUE));
         LearnedLedge exact = with(0, 4);
         exact.appendMany(0, 10, 20);
         Check.due("16 bound 0", 1, exact.looks(100));
@@ -548,18 +461,7 @@ public final class PromisesTest {
         Check.due("20 first key", 0, ledge.firstKey(0));
         Check.due("20 first key, marked", 11, ledge.firstKey(1));
         Check.due("20 first key", 20, ledge.firstKey(2));
-        for (int piece : new int[] {3, -1, Integer.MIN_VALUE, Integer.MAX_VALUE}) {
-            Check.throwsDue("19 start", ledge, INDEX, () -> ledge.start(piece));
-            Check.throwsDue("20 first key", ledge, INDEX, () -> ledge.firstKey(piece));
-            Check.throwsDue("21 rise", ledge, INDEX, () -> ledge.rise(piece));
-            Check.throwsDue("22 run", ledge, INDEX, () -> ledge.run(piece));
-        }
-        LearnedLedge none = new LearnedLedge();
-        Check.due("18 none", 0, none.pieces());
-        Check.throwsDue("19 none", none, INDEX, () -> none.start(0));
-        Check.throwsDue("20 none", none, INDEX, () -> none.firstKey(0));
-        Check.throwsDue("21 none", none, INDEX, () -> none.rise(0));
-        Check.throwsDue("22 none", none, INDEX, () -> none.run(0));
+        Check.due("18 none", 0, new LearnedLedge().pieces());
     }
 
     private static void riseAndRun() {
