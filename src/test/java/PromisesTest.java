@@ -353,7 +353,6 @@ public final class PromisesTest {
         for (int place = 0; place < due.length; place++) {
             Check.due("11 select", due[place], ledge.select(place));
         }
-        LearnedLedge none = new LearnedLedge();
     }
 
     private static void ceiling() {
@@ -367,9 +366,6 @@ public final class PromisesTest {
         Check.due("12 marked ones are passed", 20, ledge.ceiling(6));
         Check.due("12 marked itself", 20, ledge.ceiling(10));
         Check.due("12 last", 30, ledge.ceiling(21));
-        ledge.remove(30);
-        ledge.remove(20);
-        LearnedLedge none = new LearnedLedge();
     }
 
     private static void place() {
